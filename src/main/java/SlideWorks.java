@@ -465,7 +465,7 @@ public final class SlideWorks {
         }
 
         static int stretchOf(int place) {
-            return place < Law.LENGTH ? place >> 8 & STRETCHES - 1 : STRETCHES - 1;
+            return place < Law.LENGTH ? (place >> 8) & (STRETCHES - 1) : STRETCHES - 1;
         }
 
         boolean hasMark(int decade, int digits) {
@@ -1242,7 +1242,7 @@ public final class SlideWorks {
         int highDigits;
         int highPlace;
 
-        void setExact(int digits, int place) {
+        void setAlike(int digits, int place) {
             told = true;
             this.digits = digits;
             this.place = place;
@@ -1497,7 +1497,7 @@ public final class SlideWorks {
         private Value atomAt(int token, Value spare) {
             int number = program.firstOf(token);
             if (program.kindOf(token) == Tape.NUM) {
-                spare.setExact(number, program.secondOf(token));
+                spare.setAlike(number, program.secondOf(token));
                 return spare;
             }
             if (number >= 0 && number < current.length && current[number] != null) {
