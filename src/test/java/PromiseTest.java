@@ -32,6 +32,7 @@ public final class PromiseTest {
         RunPromises.test(due);
         productFactors();
         productOrders();
+        severalProducts();
         dividing();
         chartAndThread();
         design();
@@ -260,6 +261,9 @@ public final class PromiseTest {
         text(twelve + "let a=m;", 2, 102);
         text(twelve + "if 1<m end", 2, 101);
         text(twelve + "m", 1, 96);
+        SlideWorks x = new SlideWorks();
+        Texts.read(x, "let a=1;let aa=1;let ab=1;let ba=1;let b=1;let z=1;let az=1;let abcdefgh=1;let abcdefgi=1;let bbcdefgh=1;let ab=1;");
+        due.is("names that differ", x.count(3), 10);
         text("let a=zz;" + twelve, 2, 101);
         text(eighty.substring(0, 8 * 68) + twelve, 0, -1);
         String six = "repeat 1 if 1<2 repeat 1 if 1<2 else repeat 1 if 1<2 ";
@@ -652,6 +656,10 @@ public final class PromiseTest {
         due.is("C at its right end", x.look(C, 0), 1100);
         x.hair(D, 101, 0);
         due.is("C right of its end", x.look(C, 0), -1);
+        x.hair(D, 996, 0);
+        x.index(false);
+        x.hair(D, 995, 0);
+        due.is("C 1 left of its end", x.look(C, 0), -1);
         x.take(0);
         x.hair(D, 500, 0);
         for (int i = 0; i < 300; i++) {
@@ -738,10 +746,46 @@ public final class PromiseTest {
             {999, 99, 0}}, 12, 7, 7 * 99 + 6, 0, 1, 2, 3, 4, 5, 6);
         product(new int[][] {{200, -99, 1}, {300, -99, 1}, {400, -99, 1}, {500, -99, 1}, {600, -99, 1}, {700, -99, 1},
             {800, -99, 1}}, 7, 7, 7 * 99 - 5, 0, 1, 2, 3, 4, 5, 6);
-        // Marks whose sum is 4096 itself do not stand beyond: 100 at the end of the slide.
+        // Marks whose sum is 4096 itself do not stand beyond.
         product(new int[][] {{100, 0, 0}, {100, 0, 0}}, 1, 2, 0, 0, 1);
+        product(new int[][] {{101, 0, 0}, {991, 0, 0}}, 1, 2, 0, 0, 1);
+        product(new int[][] {{101, 0, 0}, {992, 0, 0}}, 2, 2, 1, 0, 1);
         product(new int[][] {{300, 0, 1}, {700, 1, 0}, {200, 0, 1}, {500, -1, 0}, {450, 0, 1}, {810, 2, 0}, {123, 0, 0}},
                 4, 7, 3, 1, 0, 3, 2, 5, 4, 6);
+    }
+
+    private static void severalProducts() {
+        due.promise("promises 24 to 27, one product behind another");
+        SlideWorks x = new SlideWorks();
+        x.factor(200, 0, false);
+        due.is("slides", x.fewest(0), 0);
+        x.factor(300, 0, false);
+        x.factor(400, 0, false);
+        due.is("order ahead of fewest", x.order(2), 2);
+        due.is("slides", x.fewest(0), 3);
+        due.is("place", x.fewest(2), 1);
+        x.factor(300, 0, true);
+        x.factor(900, 0, true);
+        int[] best = {0, 1, 3, 2, 4};
+        for (int i = 0; i < best.length; i++) {
+            due.is("order " + i, x.order(i), best[i]);
+        }
+        due.is("slides", x.fewest(0), 3);
+        due.is("clear", x.clear(), 5);
+        x.factor(700, 0, true);
+        x.factor(800, 0, true);
+        x.factor(900, 0, true);
+        due.is("order 0", x.order(0), 0);
+        due.is("order 1", x.order(1), 1);
+        due.is("slides", x.fewest(0), 3);
+        due.is("hairs", x.fewest(1), 3);
+        due.is("place", x.fewest(2), -3);
+        due.is("clear", x.clear(), 3);
+        x.factor(200, 0, false);
+        due.is("slides", x.fewest(0), 0);
+        due.is("hairs", x.fewest(1), 1);
+        due.is("order 0", x.order(0), 0);
+        due.is("order 1", x.order(1), -1);
     }
 
     private static void dividing() {
@@ -817,6 +861,7 @@ public final class PromiseTest {
         due.is("chart 2 3 4 1", x.chart(2, 3, 4, 1), true);
         thread(x, 999, -1, 999, -1, 999, -1);
         due.is("chart 1 1 1 1", x.chart(1, 1, 1, 1), true);
+        thread(x, 101, 1, 999, 0, 101, 1);
         // 4095 is as near to 999 as to the next place's 100.
         thread(x, 100, 1, 999, 0, 999, 0);
     }

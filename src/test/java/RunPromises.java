@@ -144,6 +144,14 @@ final class RunPromises {
         comes("let a=2/3*6*2;", 2, 4, 800, 0);
         comes("let a=2*3/4;", 2, 3, 150, 0);
         comes("let a=2/4*square 3;", 1, 4, 450, 0);
+        comes("let a=3/3*2;", 1, 3, 200, 0);
+        // 101 and 991 are 4096 together: the mark stands at the end, not beyond.
+        comes("let a=1.01*9.91;", 1, 2, 100, 1);
+        comes("let a=1.01*9.92;", 2, 2, 100, 1);
+        // 995 and 996 are 1 apart: the slide's end stands 1 below 0.
+        comes("let a=9.95/9.96;", 1, 2, 999, -1);
+        comes("let a=9.95/9.96*2;", 1, 3, 200, 0);
+        comes("let a=9.95/9.96*1;", 2, 3, 999, -1);
         String text = "let a=2*3;";
         SlideWorks x = runs(text, 1, 2);
         hasState(x, text, 1233, 3187, 4, 6);
@@ -303,6 +311,7 @@ final class RunPromises {
         breaks("repeat 67 if 1<2 if 2<3 end end end", 1, 17);
         breaks("if 1<2 repeat 99 repeat 0 end end end repeat 3 end", 1, 38);
         breaks("repeat 99 let a=1; end", 1, 10);
+        breaks("repeat 99 if 1<2 end if 1<2 end if 1<2 end end", 1, 0);
         runs("repeat 66 let a=1; end", 0, 66);
         runs("let a=1;".repeat(80), 0, 80);
         SlideWorks x = PromiseTest.full();
@@ -395,6 +404,14 @@ final class RunPromises {
         number(x, "b*d*b", 4, 100, 99);
         breaks(x, grow + "let e=b*d*b*10;", 3, 50);
         due.is("read", Texts.read(x, grow + "let e=b*d*b*10/10;"), 0);
+        due.is("only what is looked at counts", x.run(), 4);
+        String shrink = "let a=0.001;let b=cube a;let c=cube b;let d=cube c;";
+        due.is("read", Texts.read(x, shrink + "let e=b*d*b;"), 0);
+        due.is("place -99", x.run(), 2);
+        number(x, "b*d*b", 4, 100, -99);
+        breaks(x, shrink + "let e=b*d*b*0.1;", 3, 51);
+        breaks(x, shrink + "let e=b*d*b*0.9;", 3, 51);
+        due.is("read", Texts.read(x, shrink + "let e=b*d*b*0.1*10;"), 0);
         due.is("only what is looked at counts", x.run(), 4);
         // Of 9.99 and place 99 the high one is 1 of place 100.
         breaks(x, grow + "let e=b*d*b*9.99;", 3, 50);
