@@ -433,12 +433,14 @@ public final class SlideWorks {
         private static final int STRETCHES = 16;
         // Marks are at most 18 apart where true, so with flaws one is always within 9 + 20 of any place.
         private static final int SURELY_WITHIN = 29;
+        private static final int FARTHER_THAN_ALL = 1000000;
         private static final int[] STEPS = {1, 2, 5, 10, 20, 50, 100};
 
         final boolean onBody;
         final int fold;
         final boolean turned;
         private final int[] places;
+        // By place / 256; 4096 has a row of its own, kept like that of the last stretch.
         private final int[] flaws;
         private int seenMark;
         private int lowMark;
@@ -449,7 +451,7 @@ public final class SlideWorks {
             this.fold = fold;
             this.turned = turned;
             places = law.placesFor(fold);
-            flaws = new int[STRETCHES];
+            flaws = new int[STRETCHES + 1];
         }
 
         static int markFor(int decade, int digits) {
@@ -465,7 +467,7 @@ public final class SlideWorks {
         }
 
         static int stretchOf(int place) {
-            return place < Law.LENGTH ? (place >> 8) & (STRETCHES - 1) : STRETCHES - 1;
+            return Math.min(place >> 8, STRETCHES - 1);
         }
 
         boolean hasMark(int decade, int digits) {
@@ -480,10 +482,13 @@ public final class SlideWorks {
         }
 
         boolean setFlaw(int stretch, int size) {
-            if (stretch < 0 || stretch >= flaws.length || size < -MOST_FLAW || size > MOST_FLAW) {
+            if (stretch < 0 || stretch >= STRETCHES || size < -MOST_FLAW || size > MOST_FLAW) {
                 return false;
             }
             flaws[stretch] = size;
+            if (stretch == STRETCHES - 1) {
+                flaws[STRETCHES] = size;
+            }
             return true;
         }
 
@@ -499,14 +504,15 @@ public final class SlideWorks {
                 return 0;
             }
             int place = turned ? Law.LENGTH - places[mark] : places[mark];
-            return place + flaws[stretchOf(place)];
+            int stretch = place >> 8;
+            return stretch >= 0 && stretch < flaws.length ? place + flaws[stretch] : place;
         }
 
         /** Notes which mark is nearest to x, and the lowest and highest within q. */
         void lookAt(int x, int q) {
             int reach = Math.max(q, SURELY_WITHIN) + MOST_FLAW;
             int centre = turned ? Law.LENGTH - x : x;
-            int least = Integer.MAX_VALUE;
+            int least = FARTHER_THAN_ALL;
             seenMark = 0;
             lowMark = NONE;
             highMark = NONE;
@@ -1552,7 +1558,7 @@ public final class SlideWorks {
                 return NO_VALUE;
             }
             if (!bare) {
-                int why = lookUp(word, number);
+                int why = lookAcross(number, scaleToSet(word), scaleToRead(word), placeToRead(word, number.place));
                 if (why != Hand.DONE) {
                     return why;
                 }
@@ -1569,18 +1575,44 @@ public final class SlideWorks {
             return Hand.DONE;
         }
 
-        private int lookUp(int word, Value number) {
+        private Scale scaleToSet(int word) {
+            switch (word) {
+                case Tape.ROOT:
+                    return onBody(2);
+                case Tape.THIRD:
+                    return onBody(3);
+                case Tape.OVER:
+                    return onSlide(false);
+                default:
+                    return onBody(1);
+            }
+        }
+
+        private Scale scaleToRead(int word) {
             switch (word) {
                 case Tape.SQUARE:
-                    return lookAcross(number, onBody(1), onBody(2), 2 * number.place);
+                    return onBody(2);
                 case Tape.CUBE:
-                    return lookAcross(number, onBody(1), onBody(3), 3 * number.place);
-                case Tape.ROOT:
-                    return lookAcross(number, onBody(2), onBody(1), Math.floorDiv(number.place, 2));
-                case Tape.THIRD:
-                    return lookAcross(number, onBody(3), onBody(1), Math.floorDiv(number.place, 3));
+                    return onBody(3);
+                case Tape.OVER:
+                    return onSlide(true);
                 default:
-                    return lookAcross(number, onSlide(false), onSlide(true), -1 - number.place);
+                    return onBody(1);
+            }
+        }
+
+        private static int placeToRead(int word, int place) {
+            switch (word) {
+                case Tape.SQUARE:
+                    return 2 * place;
+                case Tape.CUBE:
+                    return 3 * place;
+                case Tape.ROOT:
+                    return Math.floorDiv(place, 2);
+                case Tape.THIRD:
+                    return Math.floorDiv(place, 3);
+                default:
+                    return -1 - place;
             }
         }
 
@@ -1622,6 +1654,7 @@ public final class SlideWorks {
     private static final class Product {
         private static final int MOST_FACTORS = 7;
         private static final int MOST_ORDERS = 5040;
+        private static final int MORE_THAN_ALL = 1000;
 
         private final int[] digits;
         private final int[] places;
@@ -1681,8 +1714,8 @@ public final class SlideWorks {
                 return;
             }
             settled = true;
-            bestSlides = Integer.MAX_VALUE;
-            bestHairs = Integer.MAX_VALUE;
+            bestSlides = MORE_THAN_ALL;
+            bestHairs = MORE_THAN_ALL;
             for (int i = 0; i < factorCount; i++) {
                 trial[i] = i;
             }

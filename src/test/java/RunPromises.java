@@ -487,6 +487,9 @@ final class RunPromises {
         due.is("run", x.run(), 0);
         due.is("v", x.state(4), 998);
         breaks(x, "let a=374;repeat 18 let a=a; end", 4, 20);
+        due.is("read", Texts.read(x, "let a=256;repeat 17 let a=a; end"), 0);
+        due.is("run", x.run(), 0);
+        due.is("a v of 999 is not above it", x.state(4), 999);
     }
 
     /** A u by hand of so much, then a run that sets the hair. */
