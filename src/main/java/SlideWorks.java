@@ -478,7 +478,7 @@ public final class SlideWorks {
         }
 
         int markOfNumber(int digits, int place) {
-            return markFor(Math.floorMod(place, fold), digits);
+            return markFor(Math.floorMod(place, Math.max(1, fold)), digits);
         }
 
         boolean setFlaw(int stretch, int size) {
@@ -1012,7 +1012,7 @@ public final class SlideWorks {
         private final int[] starts;
         // Of a NUM its digits, of a NAME its number.
         private final int[] firsts;
-        // Of a NUM its place, of one behind repeat the turns, of a let, repeat, if, else where it ends, of an end its start.
+        // Of a NUM its place, of one behind repeat the turns, of a repeat, if, else where it ends, of an end its start.
         private final int[] seconds;
         int tokenCount;
         private final long[] names;
@@ -1020,7 +1020,6 @@ public final class SlideWorks {
         private int expected;
         private final int[] openTokens;
         private int depth;
-        private int letAt;
         int fault;
         int faultPlace;
 
@@ -1072,7 +1071,6 @@ public final class SlideWorks {
             nameCount = 0;
             expected = STEP;
             depth = 0;
-            letAt = 0;
             fault = SOUND;
             faultPlace = NONE;
             tape.rewind();
@@ -1190,11 +1188,7 @@ public final class SlideWorks {
         }
 
         private void joinTokens(int kind, int token) {
-            if (kind == Tape.LET) {
-                letAt = token;
-            } else if (kind == Tape.SEMICOLON) {
-                setSecond(letAt, token);
-            } else if (kind == Tape.REPEAT || kind == Tape.IF) {
+            if (kind == Tape.REPEAT || kind == Tape.IF) {
                 depth++;
                 setOpen(token);
             } else if (kind == Tape.ELSE) {
@@ -1716,13 +1710,13 @@ public final class SlideWorks {
             settled = true;
             bestSlides = MORE_THAN_ALL;
             bestHairs = MORE_THAN_ALL;
-            for (int i = 0; i < factorCount; i++) {
+            for (int i = 0; i < trial.length; i++) {
                 trial[i] = i;
             }
             boolean anyTimes = hasTimes();
             boolean more = true;
             for (int i = 0; i < MOST_ORDERS && more; i++) {
-                if (!anyTimes || !over[trial[0]]) {
+                if (!anyTimes || !isOver(trial[0])) {
                     tryOrder(anyTimes);
                 }
                 more = toNextTrial();
@@ -1730,7 +1724,7 @@ public final class SlideWorks {
         }
 
         private boolean hasTimes() {
-            for (int i = 0; i < factorCount; i++) {
+            for (int i = 0; i < factorCount && i < over.length; i++) {
                 if (!over[i]) {
                     return true;
                 }
@@ -1738,12 +1732,16 @@ public final class SlideWorks {
             return false;
         }
 
+        private boolean isOver(int factor) {
+            return factor >= 0 && factor < over.length && over[factor];
+        }
+
         private void tryOrder(boolean firstIsSet) {
             ideal.setAll(0, 0, 0, 0);
             ideal.startCounting();
             boolean behindOver = false;
-            for (int i = 0; i < factorCount; i++) {
-                int k = trial[i];
+            for (int i = 0; i < factorCount && i < trial.length; i++) {
+                int k = Math.max(0, Math.min(MOST_FACTORS - 1, trial[i]));
                 if (i == 0 && firstIsSet) {
                     ideal.startWith(d, digits[k], places[k], 0);
                 } else if (over[k]) {
@@ -1759,25 +1757,25 @@ public final class SlideWorks {
                 bestSlides = ideal.slideMoves;
                 bestHairs = ideal.hairMoves;
                 bestPlace = ideal.placeSoFar;
-                System.arraycopy(trial, 0, best, 0, factorCount);
+                System.arraycopy(trial, 0, best, 0, best.length);
             }
         }
 
         /** Puts the next order in place of the one tried, the least first; false if there is none. */
         private boolean toNextTrial() {
-            int turn = factorCount - 2;
+            int turn = Math.min(factorCount, trial.length) - 2;
             while (turn >= 0 && trial[turn] > trial[turn + 1]) {
                 turn--;
             }
             if (turn < 0) {
                 return false;
             }
-            int next = factorCount - 1;
+            int next = Math.min(factorCount, trial.length) - 1;
             while (next > turn && trial[next] < trial[turn]) {
                 next--;
             }
             swapTrials(turn, next);
-            int high = factorCount - 1;
+            int high = Math.min(factorCount, trial.length) - 1;
             for (int low = turn + 1; low < high; low++) {
                 swapTrials(low, high);
                 high--;
