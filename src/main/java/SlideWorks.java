@@ -394,9 +394,10 @@ public final class SlideWorks {
         }
 
         private static int[] folded(int[] single, int fold) {
-            int[] places = new int[fold * PER_DECADE + 1];
+            int decades = Math.max(1, fold);
+            int[] places = new int[decades * PER_DECADE + 1];
             for (int mark = 0; mark < places.length; mark++) {
-                places[mark] = (single[mark % PER_DECADE] + LENGTH * (mark / PER_DECADE)) / fold;
+                places[mark] = (single[mark % PER_DECADE] + LENGTH * (mark / PER_DECADE)) / decades;
             }
             return places;
         }
@@ -570,8 +571,9 @@ public final class SlideWorks {
         }
 
         private boolean isWideEnough(int from, int stride, int gap) {
-            for (int mark = from; mark < from + 100; mark += stride) {
-                if (Math.abs(truePlace(mark + stride) - truePlace(mark)) < gap) {
+            int onward = Math.max(1, stride);
+            for (int mark = from; mark < from + 100; mark += onward) {
+                if (Math.abs(truePlace(mark + onward) - truePlace(mark)) < gap) {
                     return false;
                 }
             }
