@@ -430,8 +430,8 @@ public final class SlideWorks {
 
     /** A scale; its marks are numbered by decade, then by digits, 900 to a decade. */
     private static final class Scale {
-        private static final int MOST_FLAW = 20;
-        private static final int STRETCHES = 16;
+        static final int MOST_FLAW = 20;
+        static final int STRETCHES = 16;
         // Marks are at most 18 apart where true, so with flaws one is always within 9 + 20 of any place.
         private static final int SURELY_WITHIN = 29;
         private static final int FARTHER_THAN_ALL = 1000000;
@@ -593,7 +593,7 @@ public final class SlideWorks {
 
     /** A rule: its scales. */
     private static final class Rule {
-        private static final int MOST_SCALES = 8;
+        static final int MOST_SCALES = 8;
 
         private final Scale[] scales;
         int scaleCount;
@@ -1851,11 +1851,9 @@ public final class SlideWorks {
     /** The book of facts, and the guesses that fit what it knew. */
     private static final class Book {
         private static final int MOST_FACTS = 80;
-        private static final int STRETCHES = 16;
-        private static final int MOST_FLAW = 20;
-        private static final int FLAWS = 2 * MOST_FLAW;
-        private static final int PER_SCALE = STRETCHES * FLAWS;
-        private static final int MOST_GUESSES = 1 + 8 * PER_SCALE;
+        private static final int FLAWS = 2 * Scale.MOST_FLAW;
+        private static final int PER_SCALE = Scale.STRETCHES * FLAWS;
+        private static final int MOST_GUESSES = 1 + Rule.MOST_SCALES * PER_SCALE;
 
         private final int[] ruleOf;
         private final int[] apart;
@@ -1883,7 +1881,7 @@ public final class SlideWorks {
         }
 
         static int slot(int scale, int place) {
-            return scale * STRETCHES + Scale.stretchOf(place);
+            return scale * Scale.STRETCHES + Scale.stretchOf(place);
         }
 
         int addShown(int rule, int difference, int one, int other) {
@@ -1958,7 +1956,7 @@ public final class SlideWorks {
         }
 
         private static int flawAt(int i) {
-            return i < MOST_FLAW ? i - MOST_FLAW : i - MOST_FLAW + 1;
+            return i < Scale.MOST_FLAW ? i - Scale.MOST_FLAW : i - Scale.MOST_FLAW + 1;
         }
 
         int fitting() {
@@ -1996,7 +1994,7 @@ public final class SlideWorks {
             if (what == 0) {
                 return rest / PER_SCALE;
             }
-            return what == 1 ? rest / FLAWS % STRETCHES : flawAt(rest % FLAWS);
+            return what == 1 ? rest / FLAWS % Scale.STRETCHES : flawAt(rest % FLAWS);
         }
 
         int blamedScale() {

@@ -17,6 +17,7 @@ final class EdgeRuns {
         stepsOfBlocks();
         stepsInTurns();
         turns();
+        turnsLeftBehind();
         placesOfValues();
         placesOfSquares();
         placesOfCubes();
@@ -176,6 +177,27 @@ final class EdgeRuns {
         number(x, "3 by 0", 0, 100, 0);
         runs(x, "repeat 99 end let a=1;repeat 33 let a=1; end");
         due.is("moves", x.moves(), 34);
+    }
+
+    private void turnsLeftBehind() {
+        due.promise("a RUN that broke in the midst of its turns leaves none of them to the next one");
+        String[] broken = {"repeat 50 repeat 9 let a=1; end end", "if 1<2 repeat 99 let a=1; end end"};
+        for (String each : broken) {
+            SlideWorks x = steady();
+            due.is("read", Texts.read(x, each), 0);
+            due.is("it breaks", x.run(), -2);
+            due.is("too long", x.broke(), 1);
+            runs(x, "if 1<2 if 2<3 let a=1; end end");
+            due.is("an if is done once behind '" + each + "'", x.moves(), 1);
+            runs(x, "if 2<1 else let a=1; end let b=1;");
+            due.is("an else is done once behind '" + each + "'", x.moves(), 2);
+            runs(x, "repeat 2 repeat 3 let a=1; end end");
+            due.is("turns are as told behind '" + each + "'", x.moves(), 6);
+            due.is("read", Texts.read(x, each), 0);
+            due.is("it breaks again", x.run(), -2);
+            runs(x, "repeat 0 let a=1; end let b=1;");
+            due.is("no turns are none behind '" + each + "'", x.moves(), 1);
+        }
     }
 
     private void value(String text, int digits, int place) {

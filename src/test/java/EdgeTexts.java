@@ -31,6 +31,7 @@ final class EdgeTexts {
         wrongNums();
         textsEnd();
         faultChangesNothing();
+        faultsLeaveNoTrace();
         numbersOfNums();
     }
 
@@ -443,6 +444,27 @@ final class EdgeTexts {
         due.is("no value of p", x.value(0, 0), -1000);
         due.is("no value of q", x.value(1, 0), -1000);
         due.is("moves of the latest run", x.moves(), 3);
+    }
+
+    private void faultsLeaveNoTrace() {
+        due.promise("read: each text is read for itself, whatever the texts with a FAULT ahead of it were");
+        String[] broken = {"repeat 2", "if 1<2 repeat 3 let a=1;", "if 1<2 else", "let", "let a=square", "repeat",
+            "if surely", "if 1<", "let a=2 end", "repeat 1 repeat 1 repeat 1 repeat 1 repeat 1 repeat 1 repeat 1",
+            "let a=1;let b=1;let c=1;let d=1;let e=1;let f=1;let g=1;let h=1;let i=1;let j=1;let k=1;let l=1;let m=1;"};
+        for (String each : broken) {
+            SlideWorks x = new SlideWorks();
+            for (int i = 0; i < 2; i++) {
+                due.is("a fault in '" + each + "'", Texts.read(x, each) > 0, true);
+                due.is("an end alone behind '" + each + "'", Texts.read(x, "end"), 1);
+                due.is("its place", x.place(), 0);
+                due.is("an else alone behind '" + each + "'", Texts.read(x, " else"), 1);
+                due.is("its place", x.place(), 1);
+                due.is("a fault in '" + each + "'", Texts.read(x, each) > 0, true);
+                due.is("a sound text behind '" + each + "'", Texts.read(x, "repeat 1 let z=1; end"), 0);
+                due.is("no place", x.place(), -1);
+                due.is("its names", x.count(3), 1);
+            }
+        }
     }
 
     private void numbersOfNums() {
